@@ -841,9 +841,10 @@ public final class Tablature {
         }
 
         int hardestMove() {
-            if (total == NONE || count < 2) {
+            if (total == NONE) {
                 return NONE;
             }
+            // stays so with one chord: there is no move then
             int hardest = NONE;
             int most = NONE;
             for (int chord = 0; chord + 1 < count; chord++) {

@@ -498,6 +498,11 @@ public final class PromiseTest {
         check.due("with one that has no grip", NONE, () -> x.total());
         x.strike(3);
         check.due("without that", 20, () -> x.total());
+        for (int c = 0; c < 3; c++) {
+            x.strike(0);
+        }
+        check.due("without any again", NONE, () -> x.total());
+        check.due("and so the sum of the moves", NONE, () -> x.many(7));
     }
 
     private static void promise18Hardest() {
