@@ -7,11 +7,17 @@ final class Check {
     }
 
     private final String title;
+    private String sentence = "";
     private int asked = 0;
     private int wrong = 0;
 
     Check(String title) {
         this.title = title;
+    }
+
+    /** The sentence of the document that the following answers are due by. */
+    void about(String words) {
+        sentence = " [" + words + "]";
     }
 
     static String answerOf(Call call) {
@@ -26,7 +32,7 @@ final class Check {
         asked++;
         if (!got.equals(want)) {
             wrong++;
-            System.out.println(title + ": " + what + " answered " + got + ", due is " + want);
+            System.out.println(title + sentence + ": " + what + " answered " + got + ", due is " + want);
         }
     }
 

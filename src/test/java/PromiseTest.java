@@ -1,12 +1,5 @@
 /** Each promise of the document by itself: ordinary inputs, the edges that it names, and wrong inputs. */
-public final class PromiseTest {
-    private static final Class<IndexOutOfBoundsException> INDEX = IndexOutOfBoundsException.class;
-    private static final Class<IllegalArgumentException> ARGUMENT = IllegalArgumentException.class;
-    private static final Class<IllegalStateException> STATE = IllegalStateException.class;
-    private static final int NONE = -1;
-    private static final int LEAST = Integer.MIN_VALUE;
-    private static final int MOST = Integer.MAX_VALUE;
-
+public final class PromiseTest extends Asking {
     private static Check check;
 
     public static void main(String[] args) {
@@ -46,54 +39,6 @@ public final class PromiseTest {
         promise27TotalFixed();
         promise28Digest();
         check.end();
-    }
-
-    private static Tablature strung(int... opens) {
-        Tablature x = new Tablature();
-        for (int open : opens) {
-            x.string(open);
-        }
-        return x;
-    }
-
-    private static int chord(Tablature x, int length, int... pitches) {
-        int[] p = {NONE, NONE, NONE, NONE};
-        System.arraycopy(pitches, 0, p, 0, pitches.length);
-        return x.chord(p[0], p[1], p[2], p[3], length);
-    }
-
-    /** The frets of a grip, as 3 0 - 2. */
-    private static String frets(Tablature x, int chord, int grip) {
-        StringBuilder text = new StringBuilder();
-        for (int s = 0; s < x.many(0); s++) {
-            int fret = x.fret(chord, grip, s);
-            text.append(s == 0 ? "" : " ").append(fret == NONE ? "-" : String.valueOf(fret));
-        }
-        return text.toString();
-    }
-
-    private static String fingers(Tablature x, int chord, int grip) {
-        StringBuilder text = new StringBuilder();
-        for (int s = 0; s < x.many(0); s++) {
-            text.append(s == 0 ? "" : " ").append(x.finger(chord, grip, s));
-        }
-        return text.toString();
-    }
-
-    private static String ofGrip(Tablature x, int chord, int grip) {
-        StringBuilder text = new StringBuilder();
-        for (int what = 0; what <= 5; what++) {
-            text.append(what == 0 ? "" : " ").append(x.ofGrip(chord, grip, what));
-        }
-        return text.toString();
-    }
-
-    private static String many(Tablature x) {
-        StringBuilder text = new StringBuilder();
-        for (int what = 0; what <= 7; what++) {
-            text.append(what == 0 ? "" : " ").append(x.many(what));
-        }
-        return text.toString();
     }
 
     private static void promise1NewObject() {
@@ -561,10 +506,6 @@ public final class PromiseTest {
         }
     }
 
-    private interface VoicingCall {
-        int ask(int classes, int bass, int fret);
-    }
-
     private static void promise21Shapes() {
         Tablature x = strung(36, 40, 43);
         check.due("open", 1, () -> x.shapes(145, 0, 1));
@@ -603,23 +544,15 @@ public final class PromiseTest {
         refuseVoicings("shapeEffort", x, x::shapeEffort);
     }
 
-    private static String shape(Tablature x, int classes, int bass, int fret) {
-        StringBuilder text = new StringBuilder();
-        for (int s = 0; s < x.many(0); s++) {
-            text.append(s == 0 ? "" : " ").append(x.shapeFret(classes, bass, fret, s));
-        }
-        return text.toString();
-    }
-
     private static void promise23ShapeFret() {
         Tablature x = strung(36, 40, 43, 48);
         check.same("of the same effort more strings", shape(x, 145, 0, 1), "0 0 0 0");
-        check.same("without one", shape(x, 1 << 1, 1, 2), "-1 -1 -1 -1");
+        check.same("without one", shape(x, 1 << 1, 1, 2), "- - - -");
         Tablature y = strung(1, 1, 3);
-        check.same("the smallest effort, with one string", shape(y, 1 << 3, 3, 2), "-1 -1 0");
+        check.same("the smallest effort, with one string", shape(y, 1 << 3, 3, 2), "- - 0");
         y.slacken(2, true);
-        check.same("of the same strings the smaller fret first", shape(y, 1 << 3, 3, 2), "-1 2 -1");
-        check.same("as many strings, a smaller fret", shape(y, 1 << 1 | 1 << 3, 1, 2), "0 2 -1");
+        check.same("of the same strings the smaller fret first", shape(y, 1 << 3, 3, 2), "- 2 -");
+        check.same("as many strings, a smaller fret", shape(y, 1 << 1 | 1 << 3, 1, 2), "0 2 -");
         check.refused("shapeFret of no string", y, INDEX, () -> y.shapeFret(145, 0, 1, 3));
         check.refused("shapeFret of string -1", y, INDEX, () -> y.shapeFret(145, 0, 1, -1));
         check.refused("shapeFret of no string and no voicing", y, INDEX, () -> y.shapeFret(0, 0, 0, 3));
