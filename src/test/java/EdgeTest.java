@@ -722,6 +722,19 @@ public final class EdgeTest extends Asking {
         x.slacken(0, true);
         check.due("none on a slack string", 1, () -> x.total());
         check.due("nor with another reach", 1, () -> x.totalWith(0, 6));
+        Tablature y = strung(5, 10, 10);
+        chord(y, 1, 12);
+        chord(y, 1, 10);
+        check.due("nothing is fixed: - - 2, - - 0", 1, () -> y.totalWithout(1));
+        y.fix(0, 2);
+        y.fix(1, 2);
+        check.due("7 - - and 5 - -, without the second, though - - 2 would be better", 15, () -> y.totalWithout(1));
+        check.due("without the third", 15, () -> y.totalWithout(2));
+        check.due("without the first", 1, () -> y.totalWithout(0));
+        y.fix(1, NONE);
+        check.due("7 - - alone, without the second: then - - 0", 1, () -> y.totalWithout(1));
+        check.due("another one: - - 2", 1, () -> y.totalFixed(0, 0));
+        check.due("and 5 - - behind 7 - -", 15, () -> y.totalFixed(1, 2));
     }
 
     private static void promise25() {
