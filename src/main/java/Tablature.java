@@ -214,7 +214,7 @@ public final class Tablature {
         return freshVoicing(classes, bass, fret).bestFret(string);
     }
 
-    // ---- what would be
+    // ---- what would be (nothing is changed; what is fixed stays fixed as far as it can)
 
     public int totalWith(int capo, int reach) throws IllegalArgumentException {
         needCapo(capo);
@@ -936,11 +936,11 @@ public final class Tablature {
                 return;
             }
             int last = Math.min(found.fromFret + SHAPE_SPAN, instrument.lastFret());
-            // from the open string straight to the first fret of the span
-            for (int fret = 0; fret <= last; fret = Math.max(fret + 1, found.fromFret)) {
+            for (int fret = 0; fret <= last; fret++) {
+                boolean isBelowSpan = fret > 0 && fret < found.fromFret;
                 int pitch = instrument.pitchOf(string, fret);
                 int pitchClass = 1 << pitch % CLASS_COUNT;
-                if ((found.classes & pitchClass) != 0) {
+                if (!isBelowSpan && (found.classes & pitchClass) != 0) {
                     int newLowest = lowest == NONE ? pitch : Math.min(lowest, pitch);
                     place(found, instrument, string + 1, GripCode.with(code, string, fret),
                             heard | pitchClass, newLowest);
